@@ -47,6 +47,7 @@ public final class InjectorTreePromises {
         getDeepestChain();
         getWrong();
         ask();
+        askInRequests();
         askErrorLeavesAll();
         askWrong();
         held();
@@ -577,6 +578,12 @@ public final class InjectorTreePromises {
         due("FULL after OUTSIDE", x.get(0, 1), OUTSIDE);
         bind(x, 0, 8, NONE, 7, 11);
         due("FULL of a need before the next need", x.get(0, 8), FULL);
+        InjectorTree y = new InjectorTree();
+        bind(y, 0, 0, NONE);
+        bind(y, 0, 1, NONE, 0, 1);
+        fillTo(y, 0, 0, 99);
+        due("CIRCULAR at the second coming already", y.get(0, 1), CIRCULAR);
+        due("CIRCULAR: count(1) then", y.count(1), 99);
     }
 
     private static void getErrorLeavesAll() {
@@ -678,14 +685,27 @@ public final class InjectorTreePromises {
         due("ask: get(1, 3)", x.get(1, 3), 3);
         due("ask(3, 0) of a kept one", x.ask(3, 0), 0);
         due("ask(3, 1) of an instance", x.ask(3, 1), 0);
+        x.bindConstant(1, 7, 77);
+        bind(x, 1, 8, SINGLE, 1, 3, 101, 7);
+        due("ask: get(1, 8)", x.get(1, 8), 4);
+        due("ask(4, 0)", x.ask(4, 0), 0);
+        due("ask(4, 1)", x.ask(4, 1), 3);
+        due("ask(4, 2)", x.ask(4, 2), 0);
+        due("ask(4, 3)", x.ask(4, 3), 10000000077L);
+    }
+
+    private static void askInRequests() {
+        InjectorTree x = chainOfInjectors();
         bind(x, 1, 4, REQUEST);
         bind(x, 1, 5, NONE, 104);
-        due("ask: get(1, 5)", x.get(1, 5), 4);
-        due("ask(4, 0) outside", x.ask(4, 0), OUTSIDE);
+        due("ask: get(1, 5)", x.get(1, 5), 0);
+        due("ask(0, 0) outside", x.ask(0, 0), OUTSIDE);
         x.open();
-        due("ask(4, 0) inside", x.ask(4, 0), 5);
-        due("ask(4, 0) inside again", x.ask(4, 0), 5);
+        due("ask(0, 0) inside", x.ask(0, 0), 1);
+        due("ask(0, 0) inside again", x.ask(0, 0), 1);
         due("ask: close()", x.close(), 1);
+        x.open();
+        due("ask(0, 0) in a new request", x.ask(0, 0), 2);
     }
 
     private static void askErrorLeavesAll() {
