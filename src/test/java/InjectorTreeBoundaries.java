@@ -185,7 +185,10 @@ public final class InjectorTreeBoundaries {
             };
         }
 
-        /** All that can be told of the state: by looking first, then by calls that change it. */
+        /**
+         * What can be told of the state: by looking first, then by calls that change it. Of the
+         * instances only the last are told, as 512 calls are too few for a hundred.
+         */
         List<String> picture() {
             List<String> seen = new ArrayList<>();
             for (int what = 0; what < 6; what++) {
